@@ -31,7 +31,8 @@ public final class MeasuredStages {
     private final Blobs blobs;
 
     // A boot keeps its own stack in these rows, so that it makes no object and does not recurse:
-    // at each depth the image that runs there and the digit that it reads next.
+    // at each depth the image that runs there and the digit that it reads next. The depth is that
+    // of the image that runs; -1 when the first one has ended.
     private final long[] running;
     private final int[] nextDigits;
     private int depth;
@@ -49,7 +50,6 @@ public final class MeasuredStages {
         blobs = new Blobs();
         running = new long[Registers.COUNT];
         nextDigits = new int[Registers.COUNT];
-        depth = -1;
     }
 
     public void image(int n, long code) throws IllegalArgumentException {
@@ -71,7 +71,7 @@ public final class MeasuredStages {
         if (!isImage(n)) {
             throw new IllegalArgumentException("an image's number is 0 .. 7");
         }
-        reset();
+        clearForBoot();
         fault = launchAt(0, n);
         runToTheEnd();
         if (fault != NO_FAULT) {
@@ -200,11 +200,9 @@ public final class MeasuredStages {
         return blobs.policies[k] == registers.policyOf(blobs.masks[k]);
     }
 
-    private void reset() {
+    private void clearForBoot() {
         registers.clear();
-        depth = -1;
         acc = 0;
-        fault = NO_FAULT;
         launched = 0;
         steps = 0;
     }
