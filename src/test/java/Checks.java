@@ -79,6 +79,17 @@ final class Checks {
         return h(5, image);
     }
 
+    /** The v with H(a, v) = result: for each a, H takes every long to another one. */
+    static long valueFor(long a, long result) {
+        long x = result;
+        for (int i = 0; i < 3; i++) {
+            x = result ^ (x >>> 29);
+        }
+        x *= new BigInteger("2862933555777941757").modInverse(BigInteger.ONE.shiftLeft(64)).longValue();
+        x = x ^ (x >>> 32);
+        return x - (a ^ 1442695040888963407L) * 6364136223846793005L;
+    }
+
     private static BigInteger unsigned(long a) {
         return wrap(BigInteger.valueOf(a));
     }

@@ -1,28 +1,5 @@
-import java.util.NoSuchElementException;
-
 /** For each promise: ordinary inputs, the edges that the document names, and wrong inputs. */
-public final class PromisesTest {
-    private static final Class<IllegalArgumentException> ARGUMENT = IllegalArgumentException.class;
-    private static final Class<IllegalStateException> STATE = IllegalStateException.class;
-    private static final Class<IndexOutOfBoundsException> INDEX = IndexOutOfBoundsException.class;
-    private static final Class<NoSuchElementException> NONE = NoSuchElementException.class;
-
-    private static final int UNKNOWN = 1;
-    private static final int DEEP = 2;
-    private static final int TIRED = 3;
-    private static final int FULL = 4;
-    private static final int REFUSED = 5;
-    private static final int MISSING = 6;
-    private static final int SEALED = 7;
-    private static final int CROWDED = 8;
-
-    private static final int[] NO_IMAGES = {-1, 8, 9, Integer.MIN_VALUE, Integer.MAX_VALUE};
-    private static final int[] NO_BLOBS = {-1, 8, 9, Integer.MIN_VALUE, Integer.MAX_VALUE};
-    private static final int[] NO_REGISTERS = {-1, 6, 7, Integer.MIN_VALUE, Integer.MAX_VALUE};
-    private static final int[] NO_MASKS = {0, -1, 64, 65, 127, Integer.MIN_VALUE, Integer.MAX_VALUE};
-
-    private static final Checks CHECKS = new Checks();
-
+public final class PromisesTest extends MachineChecks {
     public static void main(String[] args) {
         aNewObjectIsEmpty();
         objectsShareNothing();
@@ -832,11 +809,6 @@ public final class PromisesTest {
         for (int mask : NO_MASKS) {
             CHECKS.throwsDue("quote(" + mask + ")", ARGUMENT, () -> x.quote(1, 2, mask));
         }
-    }
-
-    private static void stops(String what, MeasuredStages x, int n, int fault) {
-        CHECKS.throwsDue(what + ": boot", STATE, () -> x.boot(n));
-        CHECKS.due(what + ": fault", x.fault(), fault);
     }
 
     /** All that the face shows without changing anything, but for the blobs. */
