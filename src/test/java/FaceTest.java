@@ -39,6 +39,9 @@ public final class FaceTest {
     private static final List<String> BARRED = List.of(
         "->", "::", "package ", "synchronized", "assert ", "finally", "catch", "static {", "@Override",
         "Exact(", "System.", "Thread", "Random", "protected");
+    private static final Set<String> CONSTANTS = Set.of("int", "long", "boolean", "char", "java.lang.String");
+    private static final String EXCEPTIONS =
+        "IllegalStateException|IllegalArgumentException|IndexOutOfBoundsException|NoSuchElementException";
 
     private static final Checks CHECKS = new Checks();
 
@@ -48,8 +51,11 @@ public final class FaceTest {
         methodsAreTheFace(c);
         constructorIsTheFace(c);
         fieldsArePrivate(c);
+        CHECKS.due("there are more than twelve classes", c.getDeclaredClasses().length + 1 > 12, false);
+        staysSmall(c);
         for (Class<?> inner : c.getDeclaredClasses()) {
             innerIsKeptIn(inner);
+            staysSmall(inner);
         }
         textKeepsToTheLanguage();
         CHECKS.finish("FaceTest");
@@ -91,13 +97,22 @@ public final class FaceTest {
     private static void fieldsArePrivate(Class<?> c) {
         for (Field f : c.getDeclaredFields()) {
             CHECKS.due(f + " is private", Modifier.isPrivate(f.getModifiers()), true);
-            staticIsFinal(f);
+            staticIsConstant(f);
         }
     }
 
-    private static void staticIsFinal(Field f) {
+    private static void staticIsConstant(Field f) {
         if (Modifier.isStatic(f.getModifiers())) {
             CHECKS.due(f + " is final", Modifier.isFinal(f.getModifiers()), true);
+            CHECKS.due(f + " is a constant", CONSTANTS.contains(f.getType().getName()), true);
+        }
+    }
+
+    private static void staysSmall(Class<?> c) {
+        long fields = Arrays.stream(c.getDeclaredFields()).filter(f -> !Modifier.isStatic(f.getModifiers())).count();
+        CHECKS.due(c + " has more than twenty fields", fields > 20, false);
+        for (Method m : c.getDeclaredMethods()) {
+            CHECKS.due(m + " has more than seven parameters", m.getParameterCount() > 7, false);
         }
     }
 
@@ -106,7 +121,7 @@ public final class FaceTest {
         CHECKS.due(inner + " is static", Modifier.isStatic(modifiers), true);
         CHECKS.due(inner + " is open", Modifier.isPublic(modifiers) || Modifier.isProtected(modifiers), false);
         for (Field f : inner.getDeclaredFields()) {
-            staticIsFinal(f);
+            staticIsConstant(f);
         }
     }
 
@@ -115,6 +130,9 @@ public final class FaceTest {
         for (String barred : BARRED) {
             CHECKS.due("the text has " + barred, text.contains(barred), false);
         }
+        text.lines().filter(line -> line.contains("throw ")).forEach(line -> CHECKS.due(
+            "a written exception is thrown:" + line,
+            line.strip().matches("throw new (" + EXCEPTIONS + ")\\(\"[^\"]*\"\\);"), true));
         String imports = text.lines().filter(line -> line.startsWith("import")).collect(Collectors.joining(" "));
         CHECKS.dueText("imports", imports, "import java.util.Arrays; import java.util.NoSuchElementException;");
     }
