@@ -1,3 +1,5 @@
+import java.util.function.ToLongFunction;
+
 /**
  * The boundary cases that the document's head and its "Terms" name, but for those of launching, in the
  * document's order: above each test stands the sentence that it is for.
@@ -5,6 +7,7 @@
 public final class TermsEdgesTest extends MachineChecks {
     public static void main(String[] args) {
         theLastOf512CallsIsStillRight();
+        everyCallMayBeMadeUntilThe512th();
         hWraps();
         hCanBe0();
         registersHoldAnyLong();
@@ -38,6 +41,50 @@ public final class TermsEdgesTest extends MachineChecks {
             CHECKS.throwsDue("call " + call + " of 512", STATE, () -> x.boot(0));
         }
         CHECKS.due("call 512 of 512", x.steps(), 100);
+    }
+
+    private static void everyCallMayBeMadeUntilThe512th() {
+        again("fault", 1, UNKNOWN, MeasuredStages::fault);
+        again("launched", 1, 2, MeasuredStages::launched);
+        again("steps", 1, 2, MeasuredStages::steps);
+        again("acc", 1, Checks.h(0, 4), MeasuredStages::acc);
+        again("register", 1, Checks.h(0, 6), x -> x.register(4));
+        again("events", 1, 3, MeasuredStages::events);
+        again("eventRegister", 1, 4, x -> x.eventRegister(2));
+        again("eventValue", 1, Checks.digest(9), x -> x.eventValue(1));
+        again("unseal", 1, 77, x -> x.unseal(0));
+        again("quote", 1, Checks.h(Checks.h(3, 4), Checks.h(Checks.h(9, 32), 0)), x -> x.quote(3, 4, 32));
+        again("image, approve, boot, extend", 4, 1, x -> {
+            x.image(2, 0);
+            x.approve(2);
+            int launched = x.boot(2);
+            x.extend(4, 6);
+            return launched;
+        });
+        again("tamper, replays", 4, 1, x -> {
+            x.tamper(1, 8);
+            boolean tampered = !x.replays();
+            x.tamper(1, 8);
+            return x.replays() && tampered ? 1 : 0;
+        });
+        again("seal, discard", 2, 1, x -> {
+            int k = x.seal(63, 5);
+            x.discard(k);
+            return k;
+        });
+    }
+
+    /** After a life of five calls, the same turn answers the same as often as 512 calls allow. */
+    private static void again(String what, int calls, long want, ToLongFunction<MeasuredStages> turn) {
+        MeasuredStages x = new MeasuredStages();
+        x.image(0, Checks.code(5, 4, 1, 1));
+        x.image(1, Checks.code(9));
+        x.seal(32, 77);
+        CHECKS.throwsDue(what + ": boot", STATE, () -> x.boot(0));
+        x.extend(4, 6);
+        for (int done = 5; done + calls <= 512; done += calls) {
+            CHECKS.due(what + " after " + done + " calls", turn.applyAsLong(x), want);
+        }
     }
 
     // "H(a, b), for longs that wrap: x = (a ^ 1442695040888963407) * 6364136223846793005 + b; then
@@ -202,12 +249,13 @@ public final class TermsEdgesTest extends MachineChecks {
     // "For each image there may be an APPROVED digest."
 
     private static void aDigestOf0IsNoApproval() {
-        MeasuredStages x = new MeasuredStages();
-        x.image(1, Checks.valueFor(5, 0));
-        x.image(0, Checks.code(3, 1));
-        stops("an image of digest 0 that none approved", x, 0, REFUSED);
-        x.image(0, Checks.code(3, 2));
-        stops("an image of 0 that none approved", x, 0, REFUSED);
+        for (int n = 0; n <= 7; n++) {
+            MeasuredStages x = new MeasuredStages();
+            int first = (n + 1) % 8;
+            x.image(n, Checks.valueFor(5, 0));
+            x.image(first, Checks.code(3, n));
+            stops("image " + n + " of digest 0 that none approved", x, first, REFUSED);
+        }
     }
 
     private static void anApprovedDigestMayBe0() {
